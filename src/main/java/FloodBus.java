@@ -20,7 +20,7 @@ public final class FloodBus {
     private static final int MAX_ROUNDS_A_CALL = 20;
     private static final int MAX_ROUND_NUMBER = 9999;
 
-    /** The longest flood takes 56 slots: seven hops of at most 7 slots each, then 7 slots of the last node. */
+    /** No flood takes more than 56 slots: seven hops of at most 7 slots each, then the 7 slots of the last node. */
     private static final int MAX_SLOTS = 64;
 
     private static final int HEADER_BITS = 8;
@@ -49,11 +49,7 @@ public final class FloodBus {
         if (ch < 32 || ch > 126) {
             return INVALID_VALUE;
         }
-        if (description.length >= MAX_CHARACTERS) {
-            return CAPACITY_EXCEEDED;
-        }
-        description.addCharacter(ch);
-        return description.length;
+        return description.add(ch);
     }
 
     public int clearBuffer() {
@@ -342,11 +338,13 @@ public final class FloodBus {
         private int firstNode = 0;
         private int secondNode = 0;
 
-        void addCharacter(int ch) {
-            if (length < MAX_CHARACTERS) {
-                characters[length] = ch;
-                length++;
+        int add(int ch) {
+            if (length >= MAX_CHARACTERS) {
+                return CAPACITY_EXCEEDED;
             }
+            characters[length] = ch;
+            length++;
+            return length;
         }
 
         boolean isComplete() {
@@ -355,7 +353,6 @@ public final class FloodBus {
 
         int findError() {
             links.clear();
-            nodeCount = 0;
             linkCount = 0;
             expected = EXPECT_NODE_COUNT;
             for (int i = 0; i < length; i++) {
@@ -490,7 +487,7 @@ public final class FloodBus {
         final boolean[] alive = new boolean[MAX_NODES];
         final int[] missed = new int[MAX_NODES];
         final int[] sent = new int[MAX_NODES];
-        /** Who received the schedule of the latest round; kept because later floods replace that flood's result. */
+        /** Who received the latest schedule; kept because later floods of the round replace that flood's result. */
         final boolean[] informed = new boolean[MAX_NODES];
 
         void startAnew(int nodeCount, Links newLinks) {
@@ -500,7 +497,6 @@ public final class FloodBus {
                 alive[node] = true;
                 missed[node] = 0;
                 sent[node] = 0;
-                informed[node] = false;
             }
         }
 
@@ -530,7 +526,6 @@ public final class FloodBus {
 
         void noteNoSchedule() {
             for (int node = 0; node < count; node++) {
-                informed[node] = false;
                 if (alive[node]) {
                     missed[node]++;
                 }
@@ -546,11 +541,6 @@ public final class FloodBus {
         int length = 0;
         int transmissionLimit = 2;
         int captureMargin = 3;
-
-        Flooding() {
-            Arrays.fill(packet, NONE);
-            Arrays.fill(hops, NONE);
-        }
 
         void forget() {
             Arrays.fill(packet, NONE);

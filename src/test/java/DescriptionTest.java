@@ -14,9 +14,11 @@ public final class DescriptionTest {
         promise4SameLinkTwice();
         promise4ThirteenthLink();
         promise4EveryCharacterAtEveryPlace();
+        promise4AskedAgain();
         promise5Incomplete();
         promise5Replaces();
         promise5KeepsLimits();
+        promise5ForgetsLossAndCounters();
         due.end();
     }
 
@@ -163,6 +165,17 @@ public final class DescriptionTest {
         }
     }
 
+    private static void promise4AskedAgain() {
+        FloodBus bus = Due.typed(TWELVE_LINKS);
+        due.is("errorPosition()", bus.errorPosition(), 61);
+        due.is("errorPosition() again", bus.errorPosition(), 61);
+        due.is("loadNetwork() after it", bus.loadNetwork(), 8);
+        due.is("errorPosition() of the emptied buffer", bus.errorPosition(), 0);
+        Due.type(bus, "3;025;02");
+        due.is("errorPosition() of the next text", bus.errorPosition(), 7);
+        due.is("errorPosition() of the next text again", bus.errorPosition(), 7);
+    }
+
     private static void promise5Incomplete() {
         String[] texts = {"", "9", "1", "2;", "2;0", "2;01", "2;010", "2;0191", "3;025;", "3;0252;", "3;025;1", "3;025;12",
             "3;025;02", "3;0252;0111", "2 ", " 2", "2;0192;", TWELVE_LINKS.substring(0, 60) + ";"};
@@ -229,5 +242,20 @@ public final class DescriptionTest {
         due.is("setCaptureMargin(1)", bus.setCaptureMargin(1), 5);
         due.is("setSlotLimit(1)", bus.setSlotLimit(1), 6);
         due.is("setTakeoverLimit(1)", bus.setTakeoverLimit(1), 7);
+    }
+
+    private static void promise5ForgetsLossAndCounters() {
+        FloodBus bus = Due.loaded("3;0192;1292");
+        bus.runRounds(3);
+        bus.setTransmissionLimit(1);
+        due.is("flood(1) over links that lose", bus.flood(1), 2);
+        due.row("missedSchedules", bus::missedSchedules, 0, 0, 3);
+        Due.type(bus, "3;019;129");
+        due.is("loadNetwork()", bus.loadNetwork(), 3);
+        due.row("missedSchedules of a new network", bus::missedSchedules, 0, 0, 0);
+        due.is("flood(1) over links without loss", bus.flood(1), 3);
+        Due.type(bus, "3;129");
+        due.is("loadNetwork()", bus.loadNetwork(), 3);
+        due.is("flood(1) without the old link", bus.flood(1), 1);
     }
 }

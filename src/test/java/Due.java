@@ -1,5 +1,8 @@
 /** Compares answers with what is due, and counts; also the short ways to a bus that the tests share. */
 final class Due {
+    /** A test of many runs would print a line for each call after its first wrong answer. */
+    private static final int MOST_LINES = 100;
+
     private final String test;
     private int asked = 0;
     private int wrong = 0;
@@ -12,7 +15,9 @@ final class Due {
         asked++;
         if (got != due) {
             wrong++;
-            System.out.println(test + ": " + call + " answered " + got + ", due is " + due);
+            if (wrong <= MOST_LINES) {
+                System.out.println(test + ": " + call + " answered " + got + ", due is " + due);
+            }
         }
     }
 

@@ -16,6 +16,7 @@ public final class FloodTest {
         samePacketNeedsNoMargin();
         lostSignalsAreNotHeard();
         laterSlotIsHeard();
+        noMoreThanTheLimit();
         holderIgnoresSignals();
         promise12And13Indices();
         promise14Length();
@@ -48,6 +49,13 @@ public final class FloodTest {
         due.is("flood(7)", bus.flood(7), FloodBus.INVALID_STATE);
         due.is("flood(10), wrong before dead", bus.flood(10), FloodBus.INVALID_VALUE);
         due.is("flood(5)", bus.flood(5), 2);
+        for (int node = 0; node < 8; node++) {
+            FloodBus eight = Due.loaded("8;015");
+            eight.setAlive(node, false);
+            due.is("flood of dead node " + node, eight.flood(1 << node), FloodBus.INVALID_STATE);
+            due.is("flood of all with dead node " + node, eight.flood(255), FloodBus.INVALID_STATE);
+            due.is("flood of all others", eight.flood(255 - (1 << node)), 7);
+        }
     }
 
     private static void promise11ErrorsChangeNothing() {
@@ -205,6 +213,23 @@ public final class FloodTest {
         bus.setTransmissionLimit(1);
         due.is("flood(3) once", bus.flood(3), 2);
         due.is("floodLength() once", bus.floodLength(), 1);
+    }
+
+    /** Node 2 could tell the two packets apart in slot 2 (in slot 4), if the initiators still sent then. */
+    private static void noMoreThanTheLimit() {
+        FloodBus once = Due.loaded("6;0253;125;035;345;455");
+        once.setTransmissionLimit(1);
+        due.is("flood(3) once", once.flood(3), 5);
+        due.is("floodLength()", once.floodLength(), 4);
+        due.is("packetAt(2) after one transmission", once.packetAt(2), -1);
+        FloodBus twice = Due.loaded("6;0255;125;035;345;455");
+        due.is("flood(3) twice", twice.flood(3), 5);
+        due.is("floodLength()", twice.floodLength(), 6);
+        due.is("packetAt(2) after two transmissions", twice.packetAt(2), -1);
+        twice.setTransmissionLimit(3);
+        due.is("flood(3) three times", twice.flood(3), 6);
+        due.is("packetAt(2) after three transmissions", twice.packetAt(2), 1);
+        due.is("hopCount(2) after three transmissions", twice.hopCount(2), 5);
     }
 
     private static void holderIgnoresSignals() {

@@ -20,6 +20,8 @@ public final class RoundTest {
         promise23LowestIndexTakesOver();
         promise23OnlyEnoughMissed();
         promise23HostIsBack();
+        promise23NodeZeroTakesOver();
+        promise23EightNodes();
         promise24Counts();
         promise24HostCounts();
         promise26Number();
@@ -304,6 +306,38 @@ public final class RoundTest {
         bus.runRounds(3);
         due.is("host() stays the new one", bus.host(), 1);
         due.row("packetAt: the schedule is node 1's", bus::packetAt, 1, 1, 1);
+    }
+
+    private static void promise23NodeZeroTakesOver() {
+        FloodBus bus = Due.loaded("3;015;125");
+        bus.setAlive(0, false);
+        bus.runRounds(2);
+        due.is("host()", bus.host(), 1);
+        bus.setAlive(0, true);
+        bus.runRounds(1);
+        bus.setAlive(1, false);
+        bus.runRounds(1);
+        due.row("missedSchedules", bus::missedSchedules, 1, 0, 1);
+        bus.runRounds(1);
+        due.is("host() is node 0 again", bus.host(), 0);
+        due.row("missedSchedules", bus::missedSchedules, 0, 0, 2);
+    }
+
+    private static void promise23EightNodes() {
+        FloodBus bus = Due.loaded("8;015;125;235;345;455;565;675");
+        for (int node = 0; node < 7; node++) {
+            bus.setAlive(node, false);
+            bus.runRounds(1);
+            due.is("host() after a round without node " + node, bus.host(), node);
+            bus.runRounds(1);
+            due.is("host() after two rounds without node " + node, bus.host(), node + 1);
+            bus.runRounds(1);
+            due.is("missedSchedules(7) under the new host", bus.missedSchedules(7), 0);
+        }
+        bus.setAlive(7, false);
+        bus.runRounds(20);
+        due.is("host() when all are dead", bus.host(), 7);
+        due.row("missedSchedules when all are dead", bus::missedSchedules, 0, 0, 0, 0, 0, 0, 0, 0);
     }
 
     private static void promise24Counts() {

@@ -186,6 +186,15 @@ public final class StreamTest {
         bus.runRounds(2);
         due.is("deliveredPackets(5) later", bus.deliveredPackets(5), 1);
         due.is("deliveredPackets(0) later", bus.deliveredPackets(0), 3);
+        for (int stream = 0; stream < 6; stream++) {
+            FloodBus next = sixStreams();
+            next.runRounds(1);
+            next.removeStream(stream);
+            due.is("addStream after removeStream(" + stream + ")", next.addStream(0, 2, 0), 5);
+            due.is("waitingPackets(5)", next.waitingPackets(5), 0);
+            due.is("deliveredPackets(5)", next.deliveredPackets(5), 0);
+            due.is("lostPackets(5)", next.lostPackets(5), 0);
+        }
     }
 
     private static void promise17To19Indices() {
