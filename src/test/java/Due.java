@@ -32,6 +32,14 @@ final class Due {
         }
     }
 
+    int asked() {
+        return asked;
+    }
+
+    int wrong() {
+        return wrong;
+    }
+
     void end() {
         System.out.println(test + ": " + asked + " answers, " + wrong + " wrong");
         if (wrong != 0 || asked == 0) {

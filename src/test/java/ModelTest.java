@@ -3,8 +3,9 @@ import java.util.Random;
 /** Runs of calls, made by fixed seeds, on the class and on the model: each answer and each digest must agree. */
 public final class ModelTest {
     private static final Due due = new Due("ModelTest");
-    private static final int RUNS = 3000;
-    private static final int CALLS = 400;
+    private static final int RUNS = 5000;
+    /** An object is made for 512 calls; one step of a run takes 75 of them at most, for a network typed anew. */
+    private static final int MOST_CALLS = 512 - 75;
     private static final int[] FAR = {Integer.MIN_VALUE, Integer.MIN_VALUE + 1, -1000, -2, -1, 0, 1, 64, 255, 256,
         1 << 30, Integer.MAX_VALUE - 1, Integer.MAX_VALUE};
 
@@ -12,6 +13,7 @@ public final class ModelTest {
     private final FloodBus bus = new FloodBus();
     private final Model model = new Model();
     private final String name;
+    private int calls = 0;
 
     private ModelTest(long seed) {
         random = new Random(seed);
@@ -22,7 +24,7 @@ public final class ModelTest {
         for (int seed = 0; seed < RUNS; seed++) {
             ModelTest run = new ModelTest(seed);
             run.typeNetwork();
-            for (int call = 0; call < CALLS; call++) {
+            while (run.calls <= MOST_CALLS) {
                 run.oneCall();
             }
         }
@@ -49,6 +51,7 @@ public final class ModelTest {
     }
 
     private void same(String call, long got, long wanted) {
+        calls++;
         due.is(name + call, got, wanted);
     }
 

@@ -45,8 +45,8 @@ public final class RoundTest {
     }
 
     private static void promise20LastRound() {
-        FloodBus bus = Due.loaded("2;015");
-        bus.addStream(1, 1, 0);
+        FloodBus bus = Due.loaded("2");
+        bus.addStream(0, 1, 0);
         for (int i = 0; i < 499; i++) {
             due.is("runRounds(20)", bus.runRounds(20), 20);
         }
@@ -58,10 +58,7 @@ public final class RoundTest {
         due.is("runRounds(19) to 9999", bus.runRounds(19), 19);
         due.is("roundNumber()", bus.roundNumber(), 9999);
         due.is("runRounds(1) at 9999", bus.runRounds(1), FloodBus.CAPACITY_EXCEEDED);
-        due.is("deliveredPackets(0)", bus.deliveredPackets(0), 9999);
-        Due.type(bus, "2");
-        bus.loadNetwork();
-        due.is("runRounds(1) after loadNetwork()", bus.runRounds(1), 0);
+        due.is("deliveredPackets(0), the 511th call", bus.deliveredPackets(0), 9999);
     }
 
     private static void promise20SumsUp() {
