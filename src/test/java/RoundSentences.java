@@ -57,13 +57,13 @@ final class RoundSentences extends SentenceGroup {
         holds("Returns the node index", this::everyNodeCanBeHost);
         holds("NONE if there is no network.", this::noHostWithoutANetwork);
         inPromise(24);
-        holds("Tells how many schedules a node has missed in a row.", this::countsInARow);
+        holds("Tells how many schedules a node has missed in a row.", this::toldCounts);
         holds("`node`: node index", this::nodesThatCount);
         holds("Returns the count", this::greatCounts);
         holds("INVALID_INDEX if node is not a valid index.", this::missedSchedulesOfNoNode);
         inPromise(26);
         holds("Tells the number of the next round.", this::numberOfTheNextRound);
-        holds("Returns the round number", this::roundNumberIncreases);
+        holds("Returns the round number", this::fromZeroTo9999);
         holds("0 if there is no network.", this::roundNumberWithoutANetwork);
     }
 
@@ -676,6 +676,24 @@ final class RoundSentences extends SentenceGroup {
         is("host() with a network", bus.host(), 0);
     }
 
+    /** Of the chain, node 1 always has the schedule, node 2 never (link 1-2 loses slots 1 and 3), node 3 is set dead and alive. */
+    private void toldCounts() {
+        FloodBus bus = loaded("4;015;1252;235");
+        row("missedSchedules before the first round", bus::missedSchedules, 0, 0, 0, 0);
+        bus.runRounds(1);
+        row("missedSchedules after one round", bus::missedSchedules, 0, 0, 1, 1);
+        bus.flood(8);
+        row("missedSchedules: a flood does not count", bus::missedSchedules, 0, 0, 1, 1);
+        bus.runRounds(20);
+        row("missedSchedules after 21 rounds", bus::missedSchedules, 0, 0, 21, 21);
+        bus.setAlive(3, false);
+        bus.setAlive(3, true);
+        bus.runRounds(1);
+        row("missedSchedules: node 3 began anew", bus::missedSchedules, 0, 0, 22, 1);
+        bus.runRounds(21);
+        row("missedSchedules after a refused call", bus::missedSchedules, 0, 0, 22, 1);
+    }
+
     private void nodesThatCount() {
         for (int nodes = 2; nodes <= 8; nodes++) {
             FloodBus bus = loaded("" + nodes);
@@ -717,6 +735,19 @@ final class RoundSentences extends SentenceGroup {
         Due.type(bus, "2");
         bus.loadNetwork();
         is("roundNumber() of a new network", bus.roundNumber(), 0);
+    }
+
+    private void fromZeroTo9999() {
+        FloodBus bus = loaded("2");
+        is("roundNumber() before the first round", bus.roundNumber(), 0);
+        bus.runRounds(1);
+        is("roundNumber() after one round", bus.roundNumber(), 1);
+        FloodBus late = late();
+        is("roundNumber() after 499 times 20 rounds", late.roundNumber(), 9980);
+        late.runRounds(19);
+        is("roundNumber(), the greatest", late.roundNumber(), 9999);
+        late.runRounds(1);
+        is("roundNumber() after a refused call", late.roundNumber(), 9999);
     }
 
     private void roundNumberWithoutANetwork() {

@@ -36,7 +36,7 @@ final class StreamSentences extends SentenceGroup {
         inPromise(17);
         holds("Tells how many packets of a stream wait.", this::packetsThatWait);
         holds("`stream`: stream index", () -> takesAllStreams(FloodBus::waitingPackets));
-        holds("Returns the number of waiting packets", this::fourWait);
+        holds("Returns the number of waiting packets", this::fromNoneToFour);
         holds("INVALID_INDEX if stream is not a valid index.", () -> refusesOtherStreams(FloodBus::waitingPackets));
         inPromise(18);
         holds("Tells how many packets of a stream were delivered.", this::packetsDelivered);
@@ -425,6 +425,21 @@ final class StreamSentences extends SentenceGroup {
         bus.setAlive(0, false);
         bus.runRounds(1);
         row("waitingPackets under a dead host", bus::waitingPackets, 2, 3);
+    }
+
+    private void fromNoneToFour() {
+        FloodBus bus = loaded("2");
+        bus.setSlotLimit(0);
+        for (int i = 0; i < 6; i++) {
+            bus.addStream(0, 1, 5 - i);
+        }
+        bus.addStream(0, 1, 0);
+        row("waitingPackets of new streams", bus::waitingPackets, 0, 0, 0, 0, 0, 0, INVALID_INDEX);
+        bus.runRounds(5);
+        row("waitingPackets: none, one .. four, and no fifth", bus::waitingPackets, 0, 1, 2, 3, 4, 4, INVALID_INDEX);
+        bus.setSlotLimit(6);
+        bus.runRounds(1);
+        row("waitingPackets when one of each was served", bus::waitingPackets, 0, 1, 2, 3, 3, 3, INVALID_INDEX);
     }
 
     private void packetsDelivered() {
