@@ -1,14 +1,59 @@
+import java.lang.reflect.Method;
+import java.util.regex.Matcher;
+import java.util.regex.Pattern;
+
 /** The five examples of the document's description, call by call. */
 public final class ExamplesTest {
     private static final Due due = new Due("ExamplesTest");
 
-    public static void main(String[] args) {
+    public static void main(String[] args) throws Exception {
         linkBetweenTwoNodes();
         twoPacketsAtOnce();
         twoStreamsOfOneSource();
         deadHost();
         linkThatOccursTwice();
+        asTheDocumentSays(due.asked());
         due.end();
+    }
+
+    /** The same calls once more, read from the document's text: so no answer above was copied wrongly or left out. */
+    private static void asTheDocumentSays(int written) throws Exception {
+        String document = Document.text("ExamplesTest");
+        if (document.isEmpty()) {
+            return;
+        }
+        Matcher example = Pattern.compile("(?m)^(\\d)\\. (.*\\) = .*)$").matcher(document);
+        int examples = 0;
+        while (example.find()) {
+            examples++;
+            runAsWritten(example.group(1), example.group(2));
+        }
+        due.is("calls in the document's examples", due.asked() - written, written);
+        due.is("examples in the document", examples, 5);
+    }
+
+    private static void runAsWritten(String number, String text) throws Exception {
+        FloodBus bus = new FloodBus();
+        Matcher call = Pattern.compile("(\\w+)\\(([^)]*)\\) = (-?\\d+)").matcher(text);
+        while (call.find()) {
+            String[] words = call.group(2).isEmpty() ? new String[0] : call.group(2).split(", ");
+            due.is("document, " + number + ": " + call.group(1) + "(" + call.group(2) + ")",
+                answer(bus, call.group(1), words), Long.parseLong(call.group(3)));
+        }
+    }
+
+    private static long answer(FloodBus bus, String name, String[] words) throws Exception {
+        for (Method method : FloodBus.class.getMethods()) {
+            if (method.getName().equals(name)) {
+                Object[] values = new Object[words.length];
+                for (int i = 0; i < words.length; i++) {
+                    boolean isFlag = method.getParameterTypes()[i] == boolean.class;
+                    values[i] = isFlag ? (Object) Boolean.valueOf(words[i]) : Integer.valueOf(words[i]);
+                }
+                return ((Number) method.invoke(bus, values)).longValue();
+            }
+        }
+        throw new IllegalStateException("the class has no method " + name);
     }
 
     private static void append(FloodBus bus, int... codes) {

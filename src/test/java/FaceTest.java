@@ -32,7 +32,34 @@ public final class FaceTest {
         theConstructor();
         theClassesInside();
         theSource();
+        theDocument();
         due.end();
+    }
+
+    /** The lists of this test are copies; here they are held against the document's own lines. */
+    private static void theDocument() throws Exception {
+        String document = Document.text("FaceTest");
+        if (document.isEmpty()) {
+            return;
+        }
+        Set<String> methods = new TreeSet<>();
+        Matcher method = Pattern.compile("(?m)^    public (\\w+) (\\w+)\\(([^)]*)\\);$").matcher(document);
+        while (method.find()) {
+            methods.add(method.group(1) + " " + method.group(2) + "(" + method.group(3).replaceAll(" \\w+(, |$)", "$1").replace(", ", ",") + ")");
+        }
+        due.isTrue("methods in the document: " + methods, methods.equals(new TreeSet<>(Arrays.asList(METHODS))));
+        constantsOf(document, "(?m)^    public static final int (\\w+) = (-?\\d+);$");
+        constantsOf(document, "(?m)^- `(\\w+) = (-?\\d+)`: ");
+    }
+
+    private static void constantsOf(String document, String line) throws Exception {
+        Set<String> constants = new TreeSet<>();
+        Matcher constant = Pattern.compile(line).matcher(document);
+        while (constant.find()) {
+            constants.add(constant.group(1));
+            due.is(constant.group(1), FloodBus.class.getField(constant.group(1)).getInt(null), Long.parseLong(constant.group(2)));
+        }
+        due.isTrue("constants in the document: " + constants, constants.equals(new TreeSet<>(Arrays.asList(CONSTANTS))));
     }
 
     private static void theConstants() {

@@ -1,13 +1,10 @@
 import java.io.IOException;
-import java.nio.file.Files;
-import java.nio.file.Path;
 
 /**
  * The document's own words as names of tests: from a sentence its test is found, and from a test its sentence.
  * At the end no word of the description and the promises may be left that no test has quoted.
  */
 final class Sentences {
-    private static final Path DOCUMENT = Path.of("..", "shared", "DOC.md");
     private static final String FIRST_WORDS = "Network. The network";
     private static final String BEHIND_THE_LAST = "## Not promised";
 
@@ -20,12 +17,8 @@ final class Sentences {
     private int tests = 0;
 
     Sentences() throws IOException {
-        // The tests of the class say something without the document, too; only the quotes can't be looked up then.
-        document = Files.isReadable(DOCUMENT) ? Files.readString(DOCUMENT) : "";
+        document = Document.text("SentencesTest");
         quoted = new boolean[document.length()];
-        if (document.isEmpty()) {
-            System.out.println("SentencesTest: " + DOCUMENT + " is not here, so the quotes are not looked up");
-        }
     }
 
     /** The sentences that follow stand in this promise, from its heading to the next one. */
